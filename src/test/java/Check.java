@@ -20,8 +20,22 @@ final class Check {
         }
     }
 
-    boolean tooManyWrong() {
-        return wrong > 50;
+    /** An empty PAD takes a text. */
+    static void say(ShopWindow x, String text) {
+        x.wipe();
+        for (char sign : text.toCharArray()) {
+            x.say(sign);
+        }
+    }
+
+    static void stand(ShopWindow x, String window) {
+        say(x, window);
+        x.window();
+    }
+
+    static void law(ShopWindow x, int which, String text) {
+        say(x, text);
+        x.law(which);
     }
 
     void end() {
