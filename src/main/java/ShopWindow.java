@@ -736,7 +736,7 @@ public final class ShopWindow {
 
         private void makeReady() {
             if (listed == 0) {
-                list(0, 0, 0);
+                list(this, 0, 0, 0);
             }
             if (!weeksHold) {
                 Arrays.fill(weeks, NOT_RECKONED);
@@ -744,21 +744,25 @@ public final class ShopWindow {
             }
         }
 
-        /** Lists all WINDOWS that go on from a PLACE, the lesser numbers first. */
-        private void list(int place, int number, int set) {
+        /** Lists all WINDOWS that go on from a PLACE, the lesser numbers first; no deeper than there are PLACES. */
+        private static void list(Windows all, int place, int number, int set) {
             if (place >= PLACES) {
-                if (listed < ALL_WINDOWS) {
-                    numbers[listed] = number;
-                    sets[listed] = set;
-                    listed++;
-                }
+                all.add(number, set);
                 return;
             }
-            list(place + 1, number << BITS, set);
+            list(all, place + 1, number << BITS, set);
             for (int thing = 0; thing < THINGS; thing++) {
                 if ((set >> thing & 1) == 0) {
-                    list(place + 1, number << BITS | thing + 1, set | 1 << thing);
+                    list(all, place + 1, number << BITS | thing + 1, set | 1 << thing);
                 }
+            }
+        }
+
+        private void add(int number, int set) {
+            if (listed < ALL_WINDOWS) {
+                numbers[listed] = number;
+                sets[listed] = set;
+                listed++;
             }
         }
 

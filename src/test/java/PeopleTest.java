@@ -290,6 +290,21 @@ public final class PeopleTest {
         due("14: seen(1, 0)", x.seen(1, 0), 500000);
         due("14: seen(1, 1)", x.seen(1, 1), 750000);
         due("14: seen(1, 2)", x.seen(1, 2), 750000);
+        x.thing(0, 0, 9);
+        x.light(0, 9);
+        x.thing(1, 0, 1);
+        x.light(1, 1);
+        Check.stand(x, "ab");
+        x.kind(2, GLANCES, 1);
+        // 81 to 1; having BEEN once 40 to 1
+        due("14: seen(2, 0)", x.seen(2, 0), 987804);
+        due("14: seen(2, 1)", x.seen(2, 1), 12196);
+        due("15: does(2, 0)", x.does(2, 0), 98780 + 1219);
+        due("15: does(2, 1)", x.does(2, 1), 9878 + 121);
+        x.kind(2, BEEN, 1);
+        due("14: seen(2, 0), having BEEN", x.seen(2, 0), 975609);
+        due("15: does(2, 0), having BEEN", x.does(2, 0), 97560 + 2439);
+        due("15: does(2, 1), having BEEN", x.does(2, 1), 9756 + 243);
     }
 
     private static void does() {
@@ -303,6 +318,14 @@ public final class PeopleTest {
         Check.law(x, 1, "*5h");
         due("15: STOP", x.does(0, 0), 149999 + 150000 + 600000);
         due("15: COME", x.does(0, 1), 74999 + 75000 + 300000);
+        // Four are the most that are seen.
+        Check.stand(x, "abcde");
+        Check.law(x, 0, "*sh");
+        x.kind(2, GLANCES, 4);
+        x.kind(2, REACH, 1);
+        due("15: STOP of four seen", x.does(2, 0), 400000);
+        due("15: COME of four seen", x.does(2, 1), 200000);
+        Check.law(x, 0, "*9h");
         // One who sees nothing may come in, too.
         Check.stand(x, "");
         due("15: STOP of none seen", x.does(0, 0), 900000);
@@ -366,6 +389,16 @@ public final class PeopleTest {
         Check.stand(x, "a");
         due("16: the greatest week()", x.week(), 99L * 999 * 4 * 1000);
         due("18: the greatest BEST", x.best(31, -1), 99L * 999 * 4 * 1000);
+        // A third of a million at 1, three of them: 999 whole and 999 thousandths.
+        for (int kind = 1; kind < 4; kind++) {
+            x.kind(kind, MANY, 0);
+        }
+        x.kind(0, MANY, 3);
+        x.kind(0, GLANCES, 1);
+        x.thing(0, 1, 1);
+        x.other(0);
+        Check.stand(x, "abc");
+        due("16: week() is cut", x.week(), 999);
     }
 
     private static void other() {

@@ -83,6 +83,18 @@ public final class WindowsTest {
         // 5000 of a at 99, 5000 of the other one at 2.
         rid(x, 1, 5050, 4850, NONE, NONE, NONE, 0, 1);
         rid(x, 4, 5050, 4850, NONE, NONE, NONE, 0, 4);
+        // The best one need not have THING 0.
+        x.kind(0, WANTS, 1);
+        x.thing(1, 1, 99);
+        rid(x, 0, 5050, 4850, NONE, NONE, NONE, 0, 1);
+        Check.law(x, 0, "*h-s1");
+        x.kind(0, GLANCES, 2);
+        // Two must be seen: no single exchange leads there from an empty WINDOW.
+        exchanged(x, 0, 0, 9900);
+        Check.law(x, 0, "*sh");
+        x.kind(0, GLANCES, 1);
+        x.kind(0, WANTS, 0);
+        x.thing(1, 1, 10);
         // Out of reach it costs nothing: of two THINGS that with nothing at the first PLACES.
         x.kind(0, REACH, 4);
         rid(x, 4, 9900, 0, NONE, NONE, NONE, 0, 4);
@@ -208,6 +220,11 @@ public final class WindowsTest {
         exchanged(x, 2, 8000, 0);
         Check.stand(x, "-----");
         exchanged(x, 2, 8000, 0);
+        // The last of all WINDOWS is found, too.
+        x.kind(0, WANTS, 4);
+        x.kind(1, WANTS, 0);
+        Check.stand(x, "edcba");
+        exchanged(x, 0, 8000, 0);
     }
 
     /** Each sort of exchange alone can make WEEK greater. */
@@ -222,6 +239,12 @@ public final class WindowsTest {
         Check.stand(x, "b");
         exchanged(x, 1, 1000, 0);
         Check.stand(x, "");
+        exchanged(x, 1, 1000, 0);
+        Check.stand(x, "ba");
+        exchanged(x, 1, 1000, 0);
+        Check.stand(x, "---ba");
+        exchanged(x, 1, 1000, 0);
+        Check.stand(x, "---ab");
         exchanged(x, 1, 1000, 0);
         Check.stand(x, "abc");
         exchanged(x, 2, 1000, 0);
@@ -355,6 +378,11 @@ public final class WindowsTest {
         due("23: a to PLACE 2", x.mends(93), 2);
         x.light(2, 8);
         due("23: in no more light", x.mends(93), NONE);
+        x.light(1, 9);
+        x.light(2, 1);
+        Check.stand(x, "a-b");
+        due("22: stale(93)", x.stale(93), 8);
+        due("23: a to PLACE 1", x.mends(93), 1);
         Check.stand(x, "a");
         due("23: a alone is never STALE", x.mends(100), 0);
     }
