@@ -301,7 +301,10 @@ public final class PeopleTest {
         due("14: seen(2, 1)", x.seen(2, 1), 12196);
         due("15: does(2, 0)", x.does(2, 0), 98780 + 1219);
         due("15: does(2, 1)", x.does(2, 1), 9878 + 121);
+        x.kind(2, WANTS, 0);
+        due("15: does(2, 2)", x.does(2, 2), 9878 * 10 + 121 * 2);
         x.kind(2, BEEN, 1);
+        due("15: does(2, 2), having BEEN", x.does(2, 2), 9756 * 10 + 243 * 2);
         due("14: seen(2, 0), having BEEN", x.seen(2, 0), 975609);
         due("15: does(2, 0), having BEEN", x.does(2, 0), 97560 + 2439);
         due("15: does(2, 1), having BEEN", x.does(2, 1), 9756 + 243);

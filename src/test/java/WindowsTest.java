@@ -275,6 +275,13 @@ public final class WindowsTest {
         exchanged(x, 2, 1000, 0);
         Check.stand(x, "--abc");
         exchanged(x, 1, 1000, 0);
+        // One stops who sees nothing: all must go, one after the other.
+        Check.law(x, 0, "-h*5*s9");
+        Check.stand(x, "--a");
+        exchanged(x, 1, 1000, 0);
+        Check.stand(x, "ab");
+        exchanged(x, 2, 1000, 0);
+        best(x, 31, 1000, NONE, NONE, NONE, NONE, NONE);
     }
 
     private static void windowStays() {
