@@ -28,6 +28,7 @@ final class EdgesOfPeople {
         onNothing();
         noneAtFirst();
         whatIsLeft();
+        oneMillionth();
         part();
         seenOfAThing();
         seen();
@@ -240,6 +241,28 @@ final class EdgesOfPeople {
                 A | B, 128571 + 49450, A | C, 514286 + 257143, B | C, 21978 + 28572);
     }
 
+    private void oneMillionth() {
+        e.sentence(13, "that PART times its DRAWS by all of theirs; to the last of them what is left.");
+        ShopWindow x = goesBy("bdaec", 0, 3, 4);
+        x.thing(0, 0, 1);
+        x.thing(1, 0, 1);
+        x.thing(3, 0, 1);
+        x.thing(4, 0, 9);
+        x.light(3, 9);
+        // b, d, a draw 1 each, e 75, c 19: b 12820 of a million, of these b and d 133, of these b, d and a 1.
+        e.due("behind glance 2: a, b, d", x.part(0, A | B | D), 1);
+        e.due("behind glance 2: a, b, c, d", x.part(0, A | B | C | D), 0);
+        x.kind(0, GLANCES, 4);
+        // 75 of 94 of one is cut to nothing for e: c is the last of them.
+        e.due("behind glance 3: a, b, d", x.part(0, A | B | D), 0);
+        e.due("behind glance 3: a, b, d, e", x.part(0, A | B | D | E), 0);
+        e.due("behind glance 3: a, b, c, d", x.part(0, A | B | C | D), 1);
+        Check.law(x, 0, "*hh");
+        Check.law(x, 1, "*hh");
+        e.due("all stop", x.does(0, 0), ALL);
+        e.due("all come in", x.does(0, 1), ALL);
+    }
+
     private void part() {
         e.sentence(13, "PART of a SET behind all glances of a KIND. UNKNOWN; OUTSIDE.");
         ShopWindow x = goesBy("abcde", 0, 4, 1);
@@ -270,6 +293,17 @@ final class EdgesOfPeople {
         }
         x = goesBy("", 0, 4, 5);
         e.due("nothing stands there: seen(0, 0)", x.seen(0, 0), 0);
+        // 81 to 1, having BEEN 9 times 8 to 1
+        x = goesBy("ab", 0, 1, 2);
+        x.thing(0, 0, 9);
+        x.light(0, 9);
+        x.light(1, 0);
+        e.due("BEEN 0: seen(0, 0)", x.seen(0, 0), 987804);
+        x.kind(0, BEEN, 9);
+        e.due("BEEN 9: seen(0, 0)", x.seen(0, 0), 888888);
+        e.due("BEEN 9: seen(0, 1)", x.seen(0, 1), 111112);
+        e.due("BEEN 9: does(0, 0)", x.does(0, 0), 88888 + 11111);
+        e.due("BEEN 9: does(0, 1)", x.does(0, 1), 8888 + 1111);
     }
 
     private void seen() {
@@ -613,6 +647,14 @@ final class EdgesOfPeople {
             x.kind(kind, MANY, kind == 3 ? 1 : 0);
         }
         e.due("one of KIND 3 alone", x.week(), 99000);
+        // 999 thousandths are nothing, 1000 are one.
+        x.thing(0, 1, 1);
+        Check.law(x, 0, "1");
+        Check.law(x, 1, "-*h*251");
+        e.due("PAY", x.does(3, 2), 999);
+        e.due("999 thousandths", x.week(), 0);
+        Check.law(x, 1, "*hh");
+        e.due("1000 thousandths", x.week(), 1);
     }
 
     private void week() {

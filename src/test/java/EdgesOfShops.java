@@ -1,9 +1,9 @@
-/** Promises 24 to 29, what the Terms say for them, and how long an object is used; one method a sentence. */
+/** Promises 24 to 29 and what the Terms say for them, one method a sentence. */
 final class EdgesOfShops {
     private static final int NONE = ShopWindow.NONE, UNKNOWN = ShopWindow.UNKNOWN, OUTSIDE = ShopWindow.OUTSIDE;
     private static final int STATE = ShopWindow.STATE;
     private static final long LOST = ShopWindow.LOST;
-    private static final int SHOPS = 11, CALLS = 512;
+    private static final int SHOPS = 11;
 
     private final Edge e;
 
@@ -25,8 +25,6 @@ final class EdgesOfShops {
         image();
         restore();
         told();
-        firstThatFits();
-        calls512();
     }
 
     private void shops() {
@@ -290,57 +288,6 @@ final class EdgesOfShops {
         int[] none = {Edge.LEAST, -10, -1, 4, 9, 15, 19, 25, 29, 35, 39, 45, 49, 74, 79, 100, Edge.MOST};
         for (int what : none) {
             e.due("told(" + what + ")", x.told(what), OUTSIDE);
-        }
-    }
-
-    private void firstThatFits() {
-        e.sentence(4, "Calls that are refused answer, the first of these that fits: UNKNOWN -1 (there is no such THING,"
-                + " PLACE, KIND, SHOP), OUTSIDE -2 (another number is not as told), STATE -3 (as told), FULL -4,"
-                + " NO -5 (as told).");
-        ShopWindow x = new ShopWindow();
-        e.due("UNKNOWN ahead of OUTSIDE: thing(5, 3, -1)", x.thing(5, 3, -1), -1);
-        e.due("UNKNOWN ahead of OUTSIDE: light(5, 10)", x.light(5, 10), -1);
-        e.due("UNKNOWN ahead of OUTSIDE: draws(5, 19)", x.draws(5, 19), -1);
-        e.due("UNKNOWN ahead of OUTSIDE: kind(4, 6, -1)", x.kind(4, 6, -1), -1);
-        e.due("UNKNOWN ahead of OUTSIDE: part(4, 32)", x.part(4, 32), -1);
-        e.due("UNKNOWN ahead of OUTSIDE: does(4, 3)", x.does(4, 3), -1);
-        e.due("UNKNOWN ahead of OUTSIDE: best(32, 5)", x.best(32, 5), -1);
-        e.due("UNKNOWN ahead of OUTSIDE: shop(11, 1000, true)", x.shop(11, 1000, true), -1);
-        e.due("OUTSIDE ahead of STATE: restore(2)", x.restore(2), -2);
-        e.due("STATE: restore(1)", x.restore(1), -3);
-        for (int i = 0; i < 40; i++) {
-            x.say('?');
-        }
-        e.due("OUTSIDE ahead of FULL: say(32)", x.say(32), -2);
-        e.due("FULL: say(33)", x.say(33), -4);
-        e.due("OUTSIDE ahead of NO: law(2)", x.law(2), -2);
-        e.due("NO: law(1)", x.law(1), -5);
-        e.due("NO: window()", x.window(), -5);
-    }
-
-    private void calls512() {
-        e.sentence(1, "An object is used for at most 512 calls after it has been made");
-        ShopWindow x = new ShopWindow();
-        for (int call = 1; call < CALLS; call++) {
-            x.other(call % 100);
-        }
-        e.due("the 512th call", x.other(0), 11);
-        // The dearest calls, each with all to be reckoned anew, and the last of them is as the first.
-        ShopWindow y = new ShopWindow();
-        for (int kind = 0; kind <= 3; kind++) {
-            y.kind(kind, 1, 4);
-            y.kind(kind, 2, 5);
-            y.kind(kind, 5, 999);
-            y.kind(kind, 4, kind);
-        }
-        int first = y.best(31, -1);
-        for (int call = 18; call < CALLS; call += 2) {
-            y.light(call % 5, 5);
-            e.due("best(31, -1), call " + (call + 1), y.best(31, -1), first);
-        }
-        ShopWindow z = new ShopWindow();
-        for (int call = 1; call <= CALLS; call++) {
-            e.due("say(97), call " + call, z.say(97), call <= 40 ? call : ShopWindow.FULL);
         }
     }
 }

@@ -42,6 +42,7 @@ final class EdgesOfWindows {
         eachKind();
         stale();
         firstTwoPlaces();
+        asItIs();
         noLess();
         mends();
     }
@@ -259,6 +260,10 @@ final class EdgesOfWindows {
         Check.law(x, 0, "-h*hs");
         exchangedFrom(x, "--c", 1, 200, 0);
         exchangedFrom(x, "", 0, 200, 0);
+        // One at a time: with a or b or c left it is no greater.
+        x = ten(1, 5, 5);
+        Check.law(x, 0, "-h*hs");
+        exchangedFrom(x, "abc", 0, 0, 200);
     }
 
     private void greatestIfGreater() {
@@ -584,6 +589,18 @@ final class EdgesOfWindows {
         Check.stand(x, "bac");
         e.due("bac: stale(100)", x.stale(100), 5);
         e.due("bac: mends(100)", x.mends(100), 3);
+    }
+
+    private void asItIs() {
+        e.sentence(23, "is less than that share of WEEK as it is. MENDS: the first two PLACES");
+        // BEEN 9: 888, and 875 in week 1; a draws 91 if b, straight beside, LOOKS at it: 888 again.
+        ShopWindow x = growsStale("a-b", 3);
+        x.kind(0, BEEN, 9);
+        x.thing(1, LOOKS, LEFT);
+        x.light(2, 1);
+        e.due("week()", x.week(), 888);
+        e.due("stale(100)", x.stale(100), 1);
+        e.due("mends(100)", x.mends(100), 12);
     }
 
     private void noLess() {

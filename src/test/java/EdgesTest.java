@@ -4,6 +4,7 @@ import java.io.IOException;
 public final class EdgesTest {
     public static void main(String[] args) throws IOException {
         Edge edge = new Edge();
+        new EdgesOfTerms(edge).all();
         new EdgesOfThings(edge).all();
         new EdgesOfPeople(edge).all();
         new EdgesOfWindows(edge).all();
